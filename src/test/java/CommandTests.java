@@ -1,0 +1,254 @@
+import java.util.NoSuchElementException;
+
+/** Promises 33 to 36. */
+final class CommandTests {
+    private static final String SIXTY = "heat 00+999;heat 00+999;heat 00+999;heat 00+999;heat 10+9990";
+    private final Tally tally;
+
+    private CommandTests(Tally tally) {
+        this.tally = tally;
+    }
+
+    static void run(Tally tally) {
+        CommandTests tests = new CommandTests(tally);
+        tests.appending();
+        tests.carryingOut();
+        tests.goodTexts();
+        tests.badTexts();
+        tests.longTexts();
+        tests.failingCommands();
+        tests.refusedCommands();
+        tests.allOrNothing();
+        tests.whatIsKept();
+    }
+
+    private void appending() {
+        MapSanatorium map = new MapSanatorium();
+        for (char character : new char[] {31, 127, 0, 10, 128, 255, 256 + 65, 0xFFFF}) {
+            tally.dueThrows("P33 no character", IllegalArgumentException.class, () -> map.append(character));
+        }
+        tally.due("P33 first", 1, () -> map.append(' '));
+        tally.due("P33 second", 2, () -> map.append('~'));
+        for (int length = 3; length <= 60; length++) {
+            tally.due("P33 length", length, () -> map.append('x'));
+        }
+        tally.dueThrows("P33 full", IllegalStateException.class, () -> map.append('x'));
+        tally.dueThrows("P33 full, no character", IllegalArgumentException.class, () -> map.append((char) 127));
+        tally.dueThrows("P34 not a text", IllegalArgumentException.class, map::run);
+        tally.due("P33 empty again", 1, () -> map.append('x'));
+        tally.dueThrows("P33 is no change", IllegalStateException.class, map::undo);
+    }
+
+    private void carryingOut() {
+        MapSanatorium map = new MapSanatorium();
+        Maps.write(map, "heat 25+120;ground 34~;border 1=77;pass 2");
+        tally.due("P34 four", 4, map::run);
+        tally.due("P34 ticks", 2, map::ticks);
+        tally.due("P34 border", 77, () -> map.border(1));
+        tally.due("P34 water", '~', () -> map.groundAt(3, 4));
+        MapSanatorium same = new MapSanatorium();
+        same.heatUp(2, 5, 120);
+        same.setGround(3, 4, '~');
+        same.setBorder(1, 77);
+        same.pass(2);
+        for (int cell = 0; cell < 64; cell++) {
+            int x = cell % 8;
+            int y = cell / 8;
+            tally.due("P34 heat", same.heatAt(x, y), () -> map.heatAt(x, y));
+        }
+        tally.dueThrows("P34 the text is empty", IllegalArgumentException.class, map::run);
+        tally.due("P35 an empty text", 0, map::errorPosition);
+    }
+
+    private void goodTexts() {
+        dueGood("heat 00+1", 1);
+        dueGood("heat 77+0999", 1);
+        dueGood("ground 07#", 1);
+        dueGood("ground 70.;ground 70:;ground 70~", 3);
+        dueGood("border 3=9999", 1);
+        dueGood("border 0=0000", 1);
+        dueGood("pass 20;pass 1;pass 01;pass 0001", 4);
+        dueGood("pass 1;pass 1;pass 1;pass 1;pass 1;pass 1;pass 1;pass 1", 8);
+        dueGood("ground 11#;ground 11.;heat 11+5", 3);
+    }
+
+    private void dueGood(String text, int commands) {
+        MapSanatorium map = new MapSanatorium();
+        Maps.write(map, text);
+        tally.due("P34 " + text, commands, map::run);
+        tally.dueThrows("P35 none behind " + text, NoSuchElementException.class, map::errorPosition);
+        tally.dueThrows("P36 none behind " + text, NoSuchElementException.class, map::failedCommand);
+        tally.due("P34 one change for " + text, 0, map::undo);
+    }
+
+    private void badTexts() {
+        dueBad("", 0);
+        dueBad(" pass 1", 0);
+        dueBad("x", 0);
+        dueBad(";", 0);
+        dueBad("Pass 1", 0);
+        dueBad("h", 1);
+        dueBad("hot", 1);
+        dueBad("heat", 4);
+        dueBad("heat00+1", 4);
+        dueBad("heat  00+1", 5);
+        dueBad("heat 0", 6);
+        dueBad("heat 0x+1", 6);
+        dueBad("heat 000+1", 7);
+        dueBad("heat 00-1", 7);
+        dueBad("heat 00+", 8);
+        dueBad("heat 00+;", 8);
+        dueBad("heat 00+12345", 12);
+        dueBad("heat 00+-5", 8);
+        dueBad("heat 00+5 ", 9);
+        dueBad("heat 99+9999x", 12);
+        dueBad("ground 00", 9);
+        dueBad("ground 00x", 9);
+        dueBad("ground 00..", 10);
+        dueBad("ground 0.", 8);
+        dueBad("grow", 3);
+        dueBad("border =5", 7);
+        dueBad("border 11=5", 8);
+        dueBad("border 1:5", 8);
+        dueBad("border 1=", 9);
+        dueBad("border 1=12345", 13);
+        dueBad("bordeR 1=1", 5);
+        dueBad("pass ", 5);
+        dueBad("pass x", 5);
+        dueBad("pass 00001", 9);
+        dueBad("pass 1,pass 1", 6);
+        dueBad("pass 1;", 7);
+        dueBad("pass 1;;", 7);
+        dueBad("pass 1; pass 1", 7);
+        dueBad("pass 1;pass", 11);
+        dueBad("pass 1;heat 00", 14);
+        dueBad("pass 99;heat 99+0;z", 18);
+        dueBad("pass 1/", 6);
+        dueBad("pass 1:", 6);
+    }
+
+    private void dueBad(String text, int position) {
+        MapSanatorium map = new MapSanatorium();
+        Maps.write(map, text);
+        tally.dueThrows("P34 " + text, IllegalArgumentException.class, map::run);
+        tally.due("P35 " + text, position, map::errorPosition);
+        tally.dueThrows("P36 none failed in " + text, NoSuchElementException.class, map::failedCommand);
+        tally.due("P34 nothing of " + text, 0, map::ticks);
+        tally.dueThrows("P34 no change of " + text, IllegalStateException.class, map::undo);
+    }
+
+    private void longTexts() {
+        dueBad("pass 1;pass 1;pass 1;pass 1;pass 1;pass 1;pass 1;pass 1;", 56);
+        dueBad("pass 1;pass 1;pass 1;pass 1;pass 1;pass 1;pass 1;pass 1;pass", 60);
+        dueBad("pass 1;pass 1;pass 1;pass 1;pass 1;pass 1;pass 1;pass 1;pax", 58);
+        MapSanatorium map = new MapSanatorium();
+        Maps.write(map, SIXTY);
+        tally.dueThrows("P33 sixty", IllegalStateException.class, () -> map.append('1'));
+        tally.dueThrows("P34 sixty", IllegalStateException.class, map::run);
+        tally.due("P36 the last one", 4, map::failedCommand);
+        Maps.write(map, SIXTY.substring(0, 59));
+        tally.due("P34 fifty-nine", 5, map::run);
+        tally.due("P34 all of them", 3996, () -> map.heatAt(0, 0));
+        tally.due("P34 the last one too", 999, () -> map.heatAt(1, 0));
+    }
+
+    private void failingCommands() {
+        dueFail("heat 80+1", 0);
+        dueFail("heat 08+1", 0);
+        dueFail("heat 00+0", 0);
+        dueFail("heat 00+1000", 0);
+        dueFail("pass 1;heat 00+9999", 1);
+        dueFail("ground 80.", 0);
+        dueFail("ground 09#", 0);
+        dueFail("border 4=1", 0);
+        dueFail("pass 0", 0);
+        dueFail("pass 21", 0);
+        dueFail("pass 1;heat 00+1;pass 21;heat 99+1", 2);
+        dueFail("border 0=1;border 1=1;border 2=1;border 3=1;border 4=1", 4);
+    }
+
+    private void dueFail(String text, int command) {
+        MapSanatorium map = new MapSanatorium();
+        Maps.write(map, text);
+        tally.dueThrows("P34 " + text, IllegalStateException.class, map::run);
+        tally.due("P36 " + text, command, map::failedCommand);
+        tally.dueThrows("P35 none in " + text, NoSuchElementException.class, map::errorPosition);
+        tally.dueThrows("P10 none in " + text, NoSuchElementException.class, map::refusalReason);
+        tally.dueThrows("P34 no change of " + text, IllegalStateException.class, map::undo);
+        tally.dueThrows("P34 empty behind " + text, IllegalArgumentException.class, map::run);
+        tally.due("P35 empty behind " + text, 0, map::errorPosition);
+        tally.due("P36 stays behind a bad text", command, map::failedCommand);
+    }
+
+    private void refusedCommands() {
+        MapSanatorium map = new MapSanatorium();
+        Maps.write(map, "heat 43+9;pass 1;ground 43#;heat 99+1");
+        tally.dueThrows("P34 rock on heat", IllegalStateException.class, map::run);
+        tally.due("P36 rock on heat", 2, map::failedCommand);
+        tally.due("P10 rock on heat", 2, map::refusalReason);
+        tally.due("P11 behind the tick", 5, map::refusalDetail);
+        Maps.write(map, "ground 43#;heat 43+9");
+        tally.dueThrows("P34 heat on rock", IllegalStateException.class, map::run);
+        tally.due("P36 heat on rock", 1, map::failedCommand);
+        tally.due("P10 heat on rock", 1, map::refusalReason);
+        tally.due("P11 heat on rock", 28, map::refusalDetail);
+        Maps.heatMuch(map, 4, 3, 9000);
+        Maps.write(map, "heat 43+999;heat 43+10");
+        tally.dueThrows("P34 too hot", IllegalStateException.class, map::run);
+        tally.due("P10 too hot", 3, map::refusalReason);
+        tally.due("P11 too hot", 10, map::refusalDetail);
+        tally.due("P34 as hot as before", 9000, () -> map.heatAt(4, 3));
+        Maps.write(map, "pass 0");
+        tally.dueThrows("P34 no reason", IllegalStateException.class, map::run);
+        tally.due("P10 the earlier one stays", 3, map::refusalReason);
+    }
+
+    private void allOrNothing() {
+        MapSanatorium map = Maps.withEmbersOnly();
+        map.undo();
+        tally.due("P43 seven are left behind one", 6, map::undo);
+        map.setGround(0, 1, '~');
+        map.pass(1);
+        map.save();
+        Maps.write(map, "heat 10+850;ground 77:;border 2=5;pass 1;pass 0");
+        tally.dueThrows("P34 the last one fails", IllegalStateException.class, map::run);
+        tally.due("P34 heat", 150, () -> map.heatAt(1, 0));
+        tally.due("P34 embers", 100, () -> map.embersAt(0, 0));
+        tally.due("P34 ground", '.', () -> map.groundAt(7, 7));
+        tally.due("P34 border", 0, () -> map.border(2));
+        tally.due("P34 lost", 150, () -> map.lostBy(0));
+        tally.due("P34 ticks", 2, map::ticks);
+        tally.due("P34 relapses", 0, map::relapses);
+        tally.due("P34 accounts", 400, map::allHeatByAccounts);
+        for (int left = 7; left >= 0; left--) {
+            tally.due("P34 all changes can be undone", left, map::undo);
+        }
+        tally.due("P34 to the oldest one", 9999, () -> map.border(0));
+        tally.due("P34 before it was heated", 0, () -> map.heatAt(0, 0));
+        tally.dueThrows("P43 no more", IllegalStateException.class, map::undo);
+    }
+
+    private void whatIsKept() {
+        MapSanatorium map = new MapSanatorium();
+        Maps.write(map, "pass 1;x");
+        tally.dueThrows("P34 bad", IllegalArgumentException.class, map::run);
+        Maps.write(map, "pass 1;pass 0");
+        tally.dueThrows("P34 failing", IllegalStateException.class, map::run);
+        tally.due("P35 stays behind a failure", 7, map::errorPosition);
+        map.save();
+        Maps.write(map, "pass 1;pass 1");
+        tally.due("P34 good", 2, map::run);
+        tally.due("P35 stays behind a success", 7, map::errorPosition);
+        tally.due("P36 stays behind a success", 1, map::failedCommand);
+        Maps.write(map, "pass ");
+        map.undo();
+        map.append('1');
+        map.restore();
+        map.append('2');
+        tally.due("P43 the text is not undone", 1, map::run);
+        tally.due("P16 its ticks", 12, map::ticks);
+        map.restore();
+        tally.due("P35 not undone", 7, map::errorPosition);
+        tally.due("P36 not undone", 1, map::failedCommand);
+    }
+}

@@ -1,0 +1,149 @@
+import java.util.NoSuchElementException;
+
+/** Promises 29 to 32, and 38 with the same legends. */
+final class LegendTests {
+    private static final int[] NO_CLASSES = {0, -1, 7, Integer.MIN_VALUE, Integer.MAX_VALUE};
+    private final Tally tally;
+
+    private LegendTests(Tally tally) {
+        this.tally = tally;
+    }
+
+    static void run(Tally tally) {
+        LegendTests tests = new LegendTests(tally);
+        tests.gaps();
+        tests.equalGaps();
+        tests.equalHeats();
+        tests.classesOfCells();
+        tests.places();
+        tests.wrongClasses();
+        tests.tooFewCells();
+        tests.orderOfExceptions();
+    }
+
+    private void due(MapSanatorium map, int classes, String legend, int spread) {
+        tally.due("P38 legend", legend, Maps.legend(map, classes));
+        tally.due("P38 length", legend.length(), () -> map.describeLegend(classes));
+        tally.due("P29 spread", spread, () -> map.legendSpread(classes));
+        tally.due("P30 spread", spread, () -> map.legendSpreadByTable(classes));
+        String[] parts = legend.split(",");
+        for (int place = 0; place < classes; place++) {
+            int part = place;
+            long begin = Long.parseLong(parts[place].split("-")[0]);
+            tally.due("P31 begin", begin, () -> map.classBegin(classes, part));
+        }
+    }
+
+    private void gaps() {
+        MapSanatorium map = Maps.inRock(300, 0, 12, 7);
+        due(map, 1, "0-300", 300);
+        due(map, 2, "0-12,300-300", 12);
+        due(map, 3, "0-0,7-12,300-300", 5);
+        due(map, 4, "0-0,7-7,12-12,300-300", 0);
+        MapSanatorium six = Maps.inRock(999, 1, 500, 40, 44, 510);
+        due(six, 2, "1-510,999-999", 509);
+        due(six, 3, "1-44,500-510,999-999", 53);
+        due(six, 6, "1-1,40-40,44-44,500-500,510-510,999-999", 0);
+        Maps.heatMuch(six, 0, 0, 9000);
+        due(six, 2, "1-510,9999-9999", 509);
+        due(new MapSanatorium(), 1, "0-0", 0);
+        due(new MapSanatorium(), 6, "0-0,0-0,0-0,0-0,0-0,0-0", 0);
+    }
+
+    private void equalGaps() {
+        MapSanatorium map = Maps.inRock(30, 20, 10, 0);
+        due(map, 2, "0-0,10-30", 20);
+        due(map, 3, "0-0,10-10,20-30", 10);
+        MapSanatorium other = Maps.inRock(0, 5, 20, 35, 40, 55);
+        due(other, 2, "0-5,20-55", 40);
+        due(other, 3, "0-5,20-20,35-55", 25);
+        due(other, 4, "0-5,20-20,35-40,55-55", 10);
+        due(other, 5, "0-0,5-5,20-20,35-40,55-55", 5);
+    }
+
+    private void equalHeats() {
+        MapSanatorium map = Maps.inRock(5, 9, 5, 5, 9);
+        due(map, 2, "5-5,9-9", 0);
+        due(map, 3, "5-5,5-5,9-9", 0);
+        dueClasses(map, 2, 0, 1, 0, 0, 1);
+        dueClasses(map, 3, 0, 2, 1, 1, 2);
+        dueClasses(map, 4, 0, 3, 1, 2, 3);
+        dueClasses(map, 5, 0, 3, 1, 2, 4);
+        MapSanatorium even = new MapSanatorium();
+        even.setGround(0, 0, '#');
+        tally.due("P32 the first one", 0, () -> even.classOf(1, 0, 3));
+        tally.due("P32 the second one", 1, () -> even.classOf(2, 0, 3));
+        tally.due("P32 the third one", 2, () -> even.classOf(3, 0, 3));
+        tally.due("P32 the last one", 2, () -> even.classOf(7, 7, 3));
+    }
+
+    private void dueClasses(MapSanatorium map, int classes, int... places) {
+        for (int cell = 0; cell < places.length; cell++) {
+            int x = cell;
+            tally.due("P32 cell " + cell + " in " + classes, places[cell], () -> map.classOf(x, 0, classes));
+        }
+    }
+
+    private void classesOfCells() {
+        MapSanatorium map = Maps.inRock(300, 0, 12, 7);
+        dueClasses(map, 1, 0, 0, 0, 0);
+        dueClasses(map, 2, 1, 0, 0, 0);
+        dueClasses(map, 3, 2, 0, 1, 1);
+        dueClasses(map, 4, 3, 0, 2, 1);
+        tally.dueThrows("P32 rock", UnsupportedOperationException.class, () -> map.classOf(4, 0, 2));
+        tally.dueThrows("P32 keeps no refusal", NoSuchElementException.class, map::refusalReason);
+        MapSanatorium embers = Maps.withEmbersOnly();
+        tally.due("P32 embers are no heat", 0, () -> embers.classOf(0, 0, 2));
+        tally.due("P32 heat is", 1, () -> embers.classOf(1, 0, 2));
+    }
+
+    private void places() {
+        MapSanatorium map = new MapSanatorium();
+        for (int place : new int[] {-1, 2, 6, Integer.MIN_VALUE, Integer.MAX_VALUE}) {
+            tally.dueThrows("P31 no place", NoSuchElementException.class, () -> map.classBegin(2, place));
+        }
+        map.heatUp(4, 4, 8);
+        tally.due("P31 last place", 8, () -> map.classBegin(2, 1));
+    }
+
+    private void wrongClasses() {
+        MapSanatorium map = new MapSanatorium();
+        for (int classes : NO_CLASSES) {
+            tally.dueThrows("P29 no number", IllegalArgumentException.class, () -> map.legendSpread(classes));
+            tally.dueThrows("P30 no number", IllegalArgumentException.class, () -> map.legendSpreadByTable(classes));
+            tally.dueThrows("P31 no number", IllegalArgumentException.class, () -> map.classBegin(classes, 0));
+            tally.dueThrows("P32 no number", IllegalArgumentException.class, () -> map.classOf(0, 0, classes));
+            tally.dueThrows("P38 no number", IllegalArgumentException.class, () -> map.describeLegend(classes));
+        }
+    }
+
+    private void tooFewCells() {
+        MapSanatorium map = Maps.inRock(0, 4, 1);
+        map.describeRow(0);
+        tally.dueThrows("P29 too few", IllegalStateException.class, () -> map.legendSpread(4));
+        tally.dueThrows("P30 too few", IllegalStateException.class, () -> map.legendSpreadByTable(4));
+        tally.dueThrows("P31 too few", IllegalStateException.class, () -> map.classBegin(4, 0));
+        tally.dueThrows("P32 too few", IllegalStateException.class, () -> map.classOf(0, 0, 4));
+        tally.dueThrows("P38 too few", IllegalStateException.class, () -> map.describeLegend(4));
+        tally.due("P38 the line stays", ".00#####", Maps.line(map, 8));
+        due(map, 3, "0-0,1-1,4-4", 0);
+        MapSanatorium rock = Maps.inRock();
+        tally.dueThrows("P29 none", IllegalStateException.class, () -> rock.legendSpread(1));
+        tally.dueThrows("P30 none", IllegalStateException.class, () -> rock.legendSpreadByTable(1));
+    }
+
+    private void orderOfExceptions() {
+        MapSanatorium rock = Maps.inRock();
+        tally.dueThrows("P32 cell first", IndexOutOfBoundsException.class, () -> rock.classOf(8, 0, 0));
+        tally.dueThrows("P32 then classes", IllegalArgumentException.class, () -> rock.classOf(0, 0, 7));
+        tally.dueThrows("P32 then cells", IllegalStateException.class, () -> rock.classOf(0, 0, 1));
+        tally.dueThrows("P31 classes first", IllegalArgumentException.class, () -> rock.classBegin(0, -1));
+        tally.dueThrows("P31 then cells", IllegalStateException.class, () -> rock.classBegin(1, 1));
+        tally.dueThrows("P29 classes first", IllegalArgumentException.class, () -> rock.legendSpread(7));
+        tally.dueThrows("P30 classes first", IllegalArgumentException.class, () -> rock.legendSpreadByTable(0));
+        tally.dueThrows("P38 classes first", IllegalArgumentException.class, () -> rock.describeLegend(0));
+        for (int[] cell : new int[][] {{-1, 0}, {0, -1}, {0, 8}, {Integer.MAX_VALUE, 0}}) {
+            tally.dueThrows("P32 no cell", IndexOutOfBoundsException.class, () -> rock.classOf(cell[0], cell[1], 1));
+        }
+    }
+}

@@ -1,0 +1,94 @@
+/** Maps and texts that several tests start from. */
+final class Maps {
+    private Maps() {
+    }
+
+    /** Makes a map of plain in which each '#' of the picture has that heat. */
+    static MapSanatorium pictured(int heat, String... rows) {
+        MapSanatorium map = new MapSanatorium();
+        for (int y = 0; y < rows.length; y++) {
+            for (int x = 0; x < rows[y].length(); x++) {
+                if (rows[y].charAt(x) == '#') {
+                    map.heatUp(x, y, heat);
+                }
+            }
+        }
+        return map;
+    }
+
+    /** Makes a map of rock but for the first cells, which are plain with these heats. */
+    static MapSanatorium inRock(int... heats) {
+        MapSanatorium map = new MapSanatorium();
+        for (int cell = 0; cell < 64; cell++) {
+            if (cell >= heats.length) {
+                map.setGround(cell % 8, cell / 8, '#');
+            } else if (heats[cell] > 0) {
+                map.heatUp(cell % 8, cell / 8, heats[cell]);
+            }
+        }
+        return map;
+    }
+
+    /** Makes a map in which rock lies all round the cell (3, 3). */
+    static MapSanatorium walledIn() {
+        MapSanatorium map = new MapSanatorium();
+        map.setGround(3, 2, '#');
+        map.setGround(4, 3, '#');
+        map.setGround(3, 4, '#');
+        map.setGround(2, 3, '#');
+        return map;
+    }
+
+    /**
+     * Makes a map whose cell (0, 0) has 100 embers and no heat. It and its neighbours, which have
+     * a heat of 150 each, are water; rock lies round the three. Two ticks have passed.
+     */
+    static MapSanatorium withEmbersOnly() {
+        MapSanatorium map = new MapSanatorium();
+        map.setGround(1, 0, '#');
+        map.setGround(0, 1, '#');
+        map.setGround(2, 0, '#');
+        map.setGround(1, 1, '#');
+        map.setGround(0, 2, '#');
+        map.setBorder(0, 9999);
+        map.setBorder(3, 9999);
+        map.heatUp(0, 0, 700);
+        map.pass(1);
+        map.setBorder(0, 0);
+        map.setBorder(3, 0);
+        map.setGround(0, 0, '~');
+        map.setGround(1, 0, '~');
+        map.setGround(0, 1, '~');
+        map.pass(1);
+        return map;
+    }
+
+    /** Adds more heat than one call takes. */
+    static void heatMuch(MapSanatorium map, int x, int y, int amount) {
+        for (int left = amount; left > 0; left -= 999) {
+            map.heatUp(x, y, Math.min(left, 999));
+        }
+    }
+
+    static void write(MapSanatorium map, String text) {
+        for (char character : text.toCharArray()) {
+            map.append(character);
+        }
+    }
+
+    static String line(MapSanatorium map, int length) {
+        StringBuilder line = new StringBuilder();
+        for (int index = 0; index < length; index++) {
+            line.append(map.lineAt(index));
+        }
+        return line.toString();
+    }
+
+    static String row(MapSanatorium map, int y) {
+        return line(map, map.describeRow(y));
+    }
+
+    static String legend(MapSanatorium map, int classes) {
+        return line(map, map.describeLegend(classes));
+    }
+}

@@ -1,0 +1,116 @@
+import java.util.NoSuchElementException;
+
+/** Promises 27 and 28. */
+final class WayTests {
+    private final Tally tally;
+
+    private WayTests(Tally tally) {
+        this.tally = tally;
+    }
+
+    static void run(Tally tally) {
+        WayTests tests = new WayTests(tally);
+        tests.roundAWall();
+        tests.throughAWall();
+        tests.noWay();
+        tests.endsCount();
+        tests.wrongCells();
+    }
+
+    private void due(MapSanatorium map, int peak, int fromX, int fromY, int toX, int toY) {
+        tally.due("P27 the peak", peak, () -> map.coolestPeak(fromX, fromY, toX, toY));
+        tally.due("P28 the peak", peak, () -> map.coolestPeakByTrying(fromX, fromY, toX, toY));
+        tally.due("P27 the peak back", peak, () -> map.coolestPeak(toX, toY, fromX, fromY));
+        tally.due("P28 the peak back", peak, () -> map.coolestPeakByTrying(toX, toY, fromX, fromY));
+    }
+
+    private void dueNone(MapSanatorium map, int fromX, int fromY, int toX, int toY) {
+        tally.dueThrows("P27 no way", NoSuchElementException.class, () -> map.coolestPeak(fromX, fromY, toX, toY));
+        tally.dueThrows("P28 no way", NoSuchElementException.class, () -> map.coolestPeakByTrying(fromX, fromY, toX, toY));
+    }
+
+    private void roundAWall() {
+        MapSanatorium map = Maps.pictured(50, "...#", "...#", "...#", "...#", "...#", "...#", "...#", "");
+        due(map, 0, 0, 0, 7, 0);
+        map.heatUp(3, 7, 60);
+        due(map, 50, 0, 0, 7, 0);
+        map.heatUp(3, 0, 1);
+        map.heatUp(3, 1, 2);
+        due(map, 50, 0, 0, 7, 0);
+        for (int y = 2; y < 7; y++) {
+            map.heatUp(3, y, 3 + y);
+        }
+        due(map, 51, 0, 7, 7, 7);
+        due(map, 0, 0, 0, 2, 7);
+    }
+
+    private void throughAWall() {
+        MapSanatorium map = new MapSanatorium();
+        for (int y = 0; y < 8; y++) {
+            if (y != 5) {
+                map.setGround(4, y, '#');
+            }
+        }
+        map.heatUp(4, 5, 70);
+        due(map, 70, 0, 0, 7, 7);
+        map.heatUp(3, 5, 80);
+        due(map, 80, 0, 0, 7, 7);
+        due(map, 70, 4, 5, 7, 7);
+        map.setGround(5, 5, '~');
+        map.heatUp(5, 5, 75);
+        due(map, 75, 4, 5, 7, 7);
+        due(map, 80, 2, 5, 6, 5);
+    }
+
+    private void noWay() {
+        MapSanatorium map = Maps.walledIn();
+        map.heatUp(3, 3, 30);
+        dueNone(map, 3, 3, 0, 0);
+        dueNone(map, 0, 0, 3, 3);
+        dueNone(map, 3, 2, 3, 2);
+        dueNone(map, 3, 2, 3, 3);
+        dueNone(map, 3, 3, 3, 2);
+        dueNone(map, 0, 0, 3, 2);
+        due(map, 30, 3, 3, 3, 3);
+        map.setGround(3, 2, ':');
+        due(map, 30, 3, 3, 0, 0);
+        MapSanatorium corner = new MapSanatorium();
+        corner.setGround(1, 0, '#');
+        corner.setGround(0, 1, '#');
+        dueNone(corner, 0, 0, 1, 1);
+        MapSanatorium rows = new MapSanatorium();
+        rows.setGround(6, 0, '#');
+        rows.setGround(7, 1, '#');
+        dueNone(rows, 7, 0, 0, 1);
+    }
+
+    private void endsCount() {
+        MapSanatorium map = new MapSanatorium();
+        map.heatUp(2, 2, 40);
+        map.heatUp(5, 5, 90);
+        due(map, 40, 2, 2, 0, 0);
+        due(map, 90, 2, 2, 5, 5);
+        due(map, 40, 2, 2, 2, 2);
+        due(map, 0, 0, 0, 0, 0);
+        MapSanatorium embers = Maps.withEmbersOnly();
+        due(embers, 0, 0, 0, 0, 0);
+        due(embers, 150, 0, 0, 1, 0);
+        Maps.heatMuch(map, 7, 7, 9999);
+        due(map, 9999, 0, 7, 7, 7);
+    }
+
+    private void wrongCells() {
+        MapSanatorium map = new MapSanatorium();
+        map.setGround(0, 0, '#');
+        int[][] ways = {
+            {-1, 0, 0, 0}, {8, 0, 0, 0}, {0, -1, 0, 0}, {0, 8, 0, 0}, {0, 0, -1, 0}, {0, 0, 8, 0},
+            {0, 0, 0, -1}, {0, 0, 0, 8}, {Integer.MIN_VALUE, 0, 0, 0}, {0, 0, 0, Integer.MAX_VALUE},
+        };
+        for (int[] way : ways) {
+            tally.dueThrows("P27 no cell", IndexOutOfBoundsException.class,
+                    () -> map.coolestPeak(way[0], way[1], way[2], way[3]));
+            tally.dueThrows("P28 no cell", IndexOutOfBoundsException.class,
+                    () -> map.coolestPeakByTrying(way[0], way[1], way[2], way[3]));
+        }
+    }
+}
