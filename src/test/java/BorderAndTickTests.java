@@ -20,6 +20,7 @@ final class BorderAndTickTests {
         tests.embers();
         tests.relapseNeedsHotNeighbour();
         tests.relapseNeedsCoolCell();
+        tests.relapseByEachNeighbour();
         tests.relapsesAtOnce();
         tests.passing();
         tests.wrongPassing();
@@ -210,6 +211,26 @@ final class BorderAndTickTests {
         tally.due("P15 a heat of 300", 0, () -> warm.pass(1));
         tally.due("P5 stays 300", 300, () -> warm.heatAt(0, 0));
         tally.due("P17 none", 0, warm::relapses);
+    }
+
+    /** Each of the four neighbours in turn is the only hot one. */
+    private void relapseByEachNeighbour() {
+        int[][] sides = {{3, 2}, {4, 3}, {3, 4}, {2, 3}};
+        for (int[] side : sides) {
+            MapSanatorium map = Maps.walledIn();
+            map.heatUp(3, 3, 700);
+            map.pass(1);
+            map.setGround(3, 4, '.');
+            for (int call = 0; call < 8; call++) {
+                map.pass(20);
+            }
+            tally.due("P6 embers that wait", 100, () -> map.embersAt(3, 3));
+            tally.due("P15 cool enough", 1, () -> Tally.truth(map.heatAt(3, 3) < 50));
+            map.setGround(side[0], side[1], ':');
+            Maps.heatMuch(map, side[0], side[1], 1500);
+            tally.due("P15 lit by a neighbour", 1, () -> map.pass(1));
+            tally.due("P6 embers gone", 0, () -> map.embersAt(3, 3));
+        }
     }
 
     /** A cell that relapses to 500 or more makes its neighbour relapse in the next tick only. */

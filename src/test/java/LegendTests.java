@@ -11,6 +11,7 @@ final class LegendTests {
 
     static void run(Tally tally) {
         LegendTests tests = new LegendTests(tally);
+        tests.eachCallByItself();
         tests.gaps();
         tests.equalGaps();
         tests.equalHeats();
@@ -32,6 +33,26 @@ final class LegendTests {
             long begin = Long.parseLong(parts[place].split("-")[0]);
             tally.due("P31 begin", begin, () -> map.classBegin(classes, part));
         }
+    }
+
+    /** No call may lean on a legend that another one has drawn, for other cells or classes. */
+    private void eachCallByItself() {
+        tally.due("P29 by itself", 12, () -> Maps.inRock(300, 0, 12, 7).legendSpread(2));
+        tally.due("P30 by itself", 12, () -> Maps.inRock(300, 0, 12, 7).legendSpreadByTable(2));
+        tally.due("P31 by itself", 300, () -> Maps.inRock(300, 0, 12, 7).classBegin(2, 1));
+        tally.due("P32 by itself", 1, () -> Maps.inRock(300, 0, 12, 7).classOf(0, 0, 2));
+        tally.due("P38 by itself", "0-12,300-300", Maps.legend(Maps.inRock(300, 0, 12, 7), 2));
+        MapSanatorium map = Maps.inRock(300, 0, 12, 7);
+        for (int round = 0; round < 2; round++) {
+            tally.due("P29 in three", 5, () -> map.legendSpread(3));
+            tally.due("P31 in two", 300, () -> map.classBegin(2, 1));
+            tally.due("P30 in one", 300, () -> map.legendSpreadByTable(1));
+            tally.due("P32 in four", 1, () -> map.classOf(3, 0, 4));
+            tally.due("P29 in two", 12, () -> map.legendSpread(2));
+        }
+        map.heatUp(1, 0, 600);
+        tally.due("P30 of other heats", 293, () -> map.legendSpreadByTable(2));
+        tally.due("P29 of other heats", 293, () -> map.legendSpread(2));
     }
 
     private void gaps() {

@@ -14,6 +14,7 @@ final class WayTests {
         tests.throughAWall();
         tests.noWay();
         tests.endsCount();
+        tests.manyHeats();
         tests.wrongCells();
     }
 
@@ -92,11 +93,33 @@ final class WayTests {
         due(map, 90, 2, 2, 5, 5);
         due(map, 40, 2, 2, 2, 2);
         due(map, 0, 0, 0, 0, 0);
+        MapSanatorium first = Maps.pictured(5, "#");
+        due(first, 5, 0, 0, 7, 7);
         MapSanatorium embers = Maps.withEmbersOnly();
         due(embers, 0, 0, 0, 0, 0);
         due(embers, 150, 0, 0, 1, 0);
         Maps.heatMuch(map, 7, 7, 9999);
         due(map, 9999, 0, 7, 7, 7);
+    }
+
+    /** Heats in no order at all, so that the heap has to sort in earnest. */
+    private void manyHeats() {
+        for (int seed = 1; seed <= 12; seed++) {
+            MapSanatorium map = new MapSanatorium();
+            PlainModel model = new PlainModel();
+            int number = 7919 * seed;
+            for (int cell = 0; cell < 64; cell++) {
+                number = (number * 1103515 + 12345) % 99991;
+                int heat = 1 + Math.abs(number) % 999;
+                map.heatUp(cell % 8, cell / 8, heat);
+                model.heatUp(cell % 8, cell / 8, heat);
+            }
+            for (int cell = 0; cell < 64; cell++) {
+                int x = cell % 8;
+                int y = cell / 8;
+                due(map, model.coolestPeak(3, 4, x, y), 3, 4, x, y);
+            }
+        }
     }
 
     private void wrongCells() {
