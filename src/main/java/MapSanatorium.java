@@ -169,7 +169,7 @@ public final class MapSanatorium {
             throw new IllegalArgumentException("the number of ticks is out of range");
         }
         history.keep(map);
-        return letTicksPass(ticks);
+        return ticker.letTicksPass(map, ticks);
     }
 
     public int ticks() {
@@ -187,7 +187,7 @@ public final class MapSanatorium {
             if (forecast.cellsOfLevel(level) == 0L) {
                 return passed;
             }
-            ticker.letTickPass(forecast);
+            ticker.letTicksPass(forecast, 1);
         }
         throw new NoSuchElementException("it would take too many ticks");
     }
@@ -316,11 +316,12 @@ public final class MapSanatorium {
             throw new IllegalArgumentException("not a command text");
         }
         beforeRun.copyFrom(map);
-        int failed = carryOutCommands();
-        if (failed != NOT_SET) {
-            map.copyFrom(beforeRun);
-            failedCommand = failed;
-            throw new IllegalStateException("a command fails");
+        for (int index = 0; index < reader.commandCount(); index++) {
+            if (!carryOut(reader.commandAt(index))) {
+                map.copyFrom(beforeRun);
+                failedCommand = index;
+                throw new IllegalStateException("a command fails");
+            }
         }
         history.keep(beforeRun);
         return reader.commandCount();
@@ -514,16 +515,6 @@ public final class MapSanatorium {
 
     // ---- carrying out commands: they answer whether they succeed, so that run() can take all back
 
-    /** Returns the index of the command that fails, or NOT_SET. */
-    private int carryOutCommands() {
-        for (int index = 0; index < reader.commandCount(); index++) {
-            if (!carryOut(reader.commandAt(index))) {
-                return index;
-            }
-        }
-        return NOT_SET;
-    }
-
     private boolean carryOut(Command command) {
         switch (command.kind) {
             case HEAT:
@@ -567,17 +558,8 @@ public final class MapSanatorium {
         if (!isTickNumber(ticks)) {
             return false;
         }
-        letTicksPass(ticks);
+        ticker.letTicksPass(map, ticks);
         return true;
-    }
-
-    /** Returns the number of relapses. */
-    private int letTicksPass(int ticks) {
-        int relapses = 0;
-        for (int passed = 0; passed < ticks; passed++) {
-            relapses += ticker.letTickPass(map);
-        }
-        return relapses;
     }
 
     // ---- second ways of finding the same numbers
@@ -775,11 +757,14 @@ public final class MapSanatorium {
         private final int[] change = new int[CELLS];
 
         /** Returns the number of relapses. */
-        int letTickPass(HeatMap map) {
-            letHeatFlow(map);
-            makeEmbers(map);
-            int relapses = relapseCells(map);
-            map.ticks++;
+        int letTicksPass(HeatMap map, int ticks) {
+            int relapses = 0;
+            for (int passed = 0; passed < ticks; passed++) {
+                letHeatFlow(map);
+                makeEmbers(map);
+                relapses += relapseCells(map);
+            }
+            map.ticks += ticks;
             map.relapses += relapses;
             return relapses;
         }
@@ -851,10 +836,9 @@ public final class MapSanatorium {
         }
 
         private static boolean isRelapsing(HeatMap map, int cell) {
-            return map.embers[cell] > 0 && map.heat[cell] < COOL_HEAT && hasHotNeighbour(map, cell);
-        }
-
-        private static boolean hasHotNeighbour(HeatMap map, int cell) {
+            if (map.embers[cell] <= 0 || map.heat[cell] >= COOL_HEAT) {
+                return false;
+            }
             for (int side = 0; side < SIDES; side++) {
                 int neighbour = neighbourOf(cell, side);
                 if (neighbour != OUTSIDE && map.heat[neighbour] >= HOT_HEAT) {
@@ -1075,8 +1059,9 @@ public final class MapSanatorium {
     }
 
     /**
-     * A heap of cells with the greatest heats on the ways to them, the least on top. An entry is
-     * 64 times the heat plus the number of the cell, so that entries compare as plain numbers.
+     * A heap of cells with the greatest heats on the ways to them, the least on top. An entry holds
+     * the number of the cell in its lowest 6 bits and the heat above them, so that entries compare
+     * as plain numbers.
      */
     private static final class CellHeap {
         private static final long EMPTY = -1L;
@@ -1096,8 +1081,8 @@ public final class MapSanatorium {
                 if (entry == EMPTY) {
                     return NO_WAY;
                 }
-                int cell = (int) (entry % CELLS);
-                int peak = (int) (entry / CELLS);
+                int cell = (int) (entry & (CELLS - 1));
+                int peak = (int) (entry >> 6);
                 if (cell == to) {
                     return peak;
                 }
@@ -1124,7 +1109,7 @@ public final class MapSanatorium {
             if (size >= CELLS) {
                 return;
             }
-            long entry = (long) peak * CELLS + cell;
+            long entry = ((long) peak << 6) | cell;
             int place = size;
             for (int above = (place - 1) / 2; place > 0 && entries[above] > entry; above = (place - 1) / 2) {
                 entries[place] = entries[above];
