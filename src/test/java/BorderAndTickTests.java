@@ -261,6 +261,8 @@ final class BorderAndTickTests {
         tally.due("P5 not yet", 7, () -> map.heatAt(5, 0));
         tally.due("P15 the farther one", 1, () -> map.pass(1));
         tally.due("P5 relapsed later", 2272, () -> map.heatAt(5, 0));
+        tally.due("P5 the nearer one cools", 1597, () -> map.heatAt(4, 0));
+        tally.due("P7 a relapse counts once", map.allHeatByAccounts(), map::allHeat);
         tally.due("P17 both", 2, map::relapses);
     }
 
@@ -274,6 +276,7 @@ final class BorderAndTickTests {
         MapSanatorium twice = Maps.withEmbersOnly();
         twice.heatUp(1, 0, 848);
         tally.due("P15 only the relapses of these ticks", 1, () -> twice.pass(2));
+        tally.due("P7 nothing comes twice", twice.allHeatByAccounts(), twice::allHeat);
         tally.due("P15 none in the next ones", 0, () -> twice.pass(2));
         tally.due("P17 all so far", 1, twice::relapses);
     }

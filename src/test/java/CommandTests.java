@@ -93,6 +93,9 @@ final class CommandTests {
         dueBad("heat00+1", 4);
         dueBad("heat  00+1", 5);
         dueBad("heat 0", 6);
+        dueBad("heat +5", 5);
+        dueBad("heat 0+5", 6);
+        dueBad("ground .", 7);
         dueBad("heat 0x+1", 6);
         dueBad("heat 000+1", 7);
         dueBad("heat 00-1", 7);
