@@ -9,13 +9,21 @@ public final class AllTests {
     public static void main(String[] args) throws IOException {
         Tally tally = new Tally();
         GroundAndHeatTests.run(tally);
+        GroundEdgeTests.run(tally);
         BorderAndTickTests.run(tally);
+        TickEdgeTests.run(tally);
         ShapeTests.run(tally);
+        ShapeEdgeTests.run(tally);
         WayTests.run(tally);
+        WayEdgeTests.run(tally);
         LegendTests.run(tally);
+        LegendEdgeTests.run(tally);
         CommandTests.run(tally);
+        CommandEdgeTests.run(tally);
         LineTests.run(tally);
+        LineEdgeTests.run(tally);
         ChangeTests.run(tally);
+        ChangeEdgeTests.run(tally);
         FaceTests.run(tally);
         LanguageTests.run(tally, Path.of(args[0]));
         RandomRunTests.run(tally);

@@ -8,32 +8,10 @@ final class ChangeTests {
 
     static void run(Tally tally) {
         ChangeTests tests = new ChangeTests(tally);
-        tests.latestEight();
         tests.kindsOfChanges();
-        tests.callsThatAreNoChanges();
         tests.everythingComesBack();
         tests.saving();
         tests.restoring();
-    }
-
-    private void latestEight() {
-        MapSanatorium map = new MapSanatorium();
-        for (int call = 1; call <= 11; call++) {
-            map.heatUp(2, 2, 1);
-        }
-        for (int left = 7; left >= 0; left--) {
-            tally.due("P43 left", left, map::undo);
-            tally.due("P43 the latest first", 3 + left, () -> map.heatAt(2, 2));
-        }
-        tally.dueThrows("P43 no ninth", IllegalStateException.class, map::undo);
-        tally.due("P43 the others stay", 3, () -> map.heatAt(2, 2));
-        map.heatUp(2, 2, 10);
-        map.heatUp(2, 2, 10);
-        tally.due("P43 a new one", 1, map::undo);
-        map.setGround(2, 2, ':');
-        tally.due("P43 in place of the undone one", 1, map::undo);
-        tally.due("P43 the one before", 0, map::undo);
-        tally.due("P43 back", 3, () -> map.heatAt(2, 2));
     }
 
     private void kindsOfChanges() {
@@ -53,22 +31,6 @@ final class ChangeTests {
         tally.due("P43 border as it was", 1, map::undo);
         tally.due("P43 ground as it was", 0, map::undo);
         tally.dueThrows("P43 no more", IllegalStateException.class, map::undo);
-    }
-
-    private void callsThatAreNoChanges() {
-        MapSanatorium map = new MapSanatorium();
-        map.setGround(1, 1, '#');
-        map.save();
-        map.describeRow(0);
-        map.describeLegend(2);
-        map.append('x');
-        map.ticksUntilBelow(1);
-        tally.dueThrows("P34 bad", IllegalArgumentException.class, map::run);
-        tally.dueThrows("P4 rock", UnsupportedOperationException.class, () -> map.heatUp(1, 1, 1));
-        tally.dueThrows("P15 none", IllegalArgumentException.class, () -> map.pass(0));
-        tally.dueThrows("P12 none", IllegalArgumentException.class, () -> map.setBorder(0, -1));
-        tally.due("P43 just one", 0, map::undo);
-        tally.due("P43 the ground", '.', () -> map.groundAt(1, 1));
     }
 
     private void everythingComesBack() {

@@ -11,32 +11,12 @@ final class CommandTests {
 
     static void run(Tally tally) {
         CommandTests tests = new CommandTests(tally);
-        tests.appending();
         tests.carryingOut();
         tests.goodTexts();
         tests.badTexts();
         tests.longTexts();
-        tests.failingCommands();
-        tests.refusedCommands();
         tests.allOrNothing();
         tests.whatIsKept();
-    }
-
-    private void appending() {
-        MapSanatorium map = new MapSanatorium();
-        for (char character : new char[] {31, 127, 0, 10, 128, 255, 256 + 65, 0xFFFF}) {
-            tally.dueThrows("P33 no character", IllegalArgumentException.class, () -> map.append(character));
-        }
-        tally.due("P33 first", 1, () -> map.append(' '));
-        tally.due("P33 second", 2, () -> map.append('~'));
-        for (int length = 3; length <= 60; length++) {
-            tally.due("P33 length", length, () -> map.append('x'));
-        }
-        tally.dueThrows("P33 full", IllegalStateException.class, () -> map.append('x'));
-        tally.dueThrows("P33 full, no character", IllegalArgumentException.class, () -> map.append((char) 127));
-        tally.dueThrows("P34 not a text", IllegalArgumentException.class, map::run);
-        tally.due("P33 empty again", 1, () -> map.append('x'));
-        tally.dueThrows("P33 is no change", IllegalStateException.class, map::undo);
     }
 
     private void carryingOut() {
@@ -153,57 +133,6 @@ final class CommandTests {
         tally.due("P34 fifty-nine", 5, map::run);
         tally.due("P34 all of them", 3996, () -> map.heatAt(0, 0));
         tally.due("P34 the last one too", 999, () -> map.heatAt(1, 0));
-    }
-
-    private void failingCommands() {
-        dueFail("heat 80+1", 0);
-        dueFail("heat 08+1", 0);
-        dueFail("heat 00+0", 0);
-        dueFail("heat 00+1000", 0);
-        dueFail("pass 1;heat 00+9999", 1);
-        dueFail("ground 80.", 0);
-        dueFail("ground 09#", 0);
-        dueFail("border 4=1", 0);
-        dueFail("pass 0", 0);
-        dueFail("pass 21", 0);
-        dueFail("pass 1;heat 00+1;pass 21;heat 99+1", 2);
-        dueFail("border 0=1;border 1=1;border 2=1;border 3=1;border 4=1", 4);
-    }
-
-    private void dueFail(String text, int command) {
-        MapSanatorium map = new MapSanatorium();
-        Maps.write(map, text);
-        tally.dueThrows("P34 " + text, IllegalStateException.class, map::run);
-        tally.due("P36 " + text, command, map::failedCommand);
-        tally.dueThrows("P35 none in " + text, NoSuchElementException.class, map::errorPosition);
-        tally.dueThrows("P10 none in " + text, NoSuchElementException.class, map::refusalReason);
-        tally.dueThrows("P34 no change of " + text, IllegalStateException.class, map::undo);
-        tally.dueThrows("P34 empty behind " + text, IllegalArgumentException.class, map::run);
-        tally.due("P35 empty behind " + text, 0, map::errorPosition);
-        tally.due("P36 stays behind a bad text", command, map::failedCommand);
-    }
-
-    private void refusedCommands() {
-        MapSanatorium map = new MapSanatorium();
-        Maps.write(map, "heat 43+9;pass 1;ground 43#;heat 99+1");
-        tally.dueThrows("P34 rock on heat", IllegalStateException.class, map::run);
-        tally.due("P36 rock on heat", 2, map::failedCommand);
-        tally.due("P10 rock on heat", 2, map::refusalReason);
-        tally.due("P11 behind the tick", 5, map::refusalDetail);
-        Maps.write(map, "ground 43#;heat 43+9");
-        tally.dueThrows("P34 heat on rock", IllegalStateException.class, map::run);
-        tally.due("P36 heat on rock", 1, map::failedCommand);
-        tally.due("P10 heat on rock", 1, map::refusalReason);
-        tally.due("P11 heat on rock", 28, map::refusalDetail);
-        Maps.heatMuch(map, 4, 3, 9000);
-        Maps.write(map, "heat 43+999;heat 43+10");
-        tally.dueThrows("P34 too hot", IllegalStateException.class, map::run);
-        tally.due("P10 too hot", 3, map::refusalReason);
-        tally.due("P11 too hot", 10, map::refusalDetail);
-        tally.due("P34 as hot as before", 9000, () -> map.heatAt(4, 3));
-        Maps.write(map, "pass 0");
-        tally.dueThrows("P34 no reason", IllegalStateException.class, map::run);
-        tally.due("P10 the earlier one stays", 3, map::refusalReason);
     }
 
     private void allOrNothing() {

@@ -2,7 +2,6 @@ import java.util.NoSuchElementException;
 
 /** Promises 29 to 32, and 38 with the same legends. */
 final class LegendTests {
-    private static final int[] NO_CLASSES = {0, -1, 7, Integer.MIN_VALUE, Integer.MAX_VALUE};
     private final Tally tally;
 
     private LegendTests(Tally tally) {
@@ -16,10 +15,6 @@ final class LegendTests {
         tests.equalGaps();
         tests.equalHeats();
         tests.classesOfCells();
-        tests.places();
-        tests.wrongClasses();
-        tests.tooFewCells();
-        tests.orderOfExceptions();
     }
 
     private void due(MapSanatorium map, int classes, String legend, int spread) {
@@ -116,55 +111,5 @@ final class LegendTests {
         MapSanatorium embers = Maps.withEmbersOnly();
         tally.due("P32 embers are no heat", 0, () -> embers.classOf(0, 0, 2));
         tally.due("P32 heat is", 1, () -> embers.classOf(1, 0, 2));
-    }
-
-    private void places() {
-        MapSanatorium map = new MapSanatorium();
-        for (int place : new int[] {-1, 2, 6, Integer.MIN_VALUE, Integer.MAX_VALUE}) {
-            tally.dueThrows("P31 no place", NoSuchElementException.class, () -> map.classBegin(2, place));
-        }
-        map.heatUp(4, 4, 8);
-        tally.due("P31 last place", 8, () -> map.classBegin(2, 1));
-    }
-
-    private void wrongClasses() {
-        MapSanatorium map = new MapSanatorium();
-        for (int classes : NO_CLASSES) {
-            tally.dueThrows("P29 no number", IllegalArgumentException.class, () -> map.legendSpread(classes));
-            tally.dueThrows("P30 no number", IllegalArgumentException.class, () -> map.legendSpreadByTable(classes));
-            tally.dueThrows("P31 no number", IllegalArgumentException.class, () -> map.classBegin(classes, 0));
-            tally.dueThrows("P32 no number", IllegalArgumentException.class, () -> map.classOf(0, 0, classes));
-            tally.dueThrows("P38 no number", IllegalArgumentException.class, () -> map.describeLegend(classes));
-        }
-    }
-
-    private void tooFewCells() {
-        MapSanatorium map = Maps.inRock(0, 4, 1);
-        map.describeRow(0);
-        tally.dueThrows("P29 too few", IllegalStateException.class, () -> map.legendSpread(4));
-        tally.dueThrows("P30 too few", IllegalStateException.class, () -> map.legendSpreadByTable(4));
-        tally.dueThrows("P31 too few", IllegalStateException.class, () -> map.classBegin(4, 0));
-        tally.dueThrows("P32 too few", IllegalStateException.class, () -> map.classOf(0, 0, 4));
-        tally.dueThrows("P38 too few", IllegalStateException.class, () -> map.describeLegend(4));
-        tally.due("P38 the line stays", ".00#####", Maps.line(map, 8));
-        due(map, 3, "0-0,1-1,4-4", 0);
-        MapSanatorium rock = Maps.inRock();
-        tally.dueThrows("P29 none", IllegalStateException.class, () -> rock.legendSpread(1));
-        tally.dueThrows("P30 none", IllegalStateException.class, () -> rock.legendSpreadByTable(1));
-    }
-
-    private void orderOfExceptions() {
-        MapSanatorium rock = Maps.inRock();
-        tally.dueThrows("P32 cell first", IndexOutOfBoundsException.class, () -> rock.classOf(8, 0, 0));
-        tally.dueThrows("P32 then classes", IllegalArgumentException.class, () -> rock.classOf(0, 0, 7));
-        tally.dueThrows("P32 then cells", IllegalStateException.class, () -> rock.classOf(0, 0, 1));
-        tally.dueThrows("P31 classes first", IllegalArgumentException.class, () -> rock.classBegin(0, -1));
-        tally.dueThrows("P31 then cells", IllegalStateException.class, () -> rock.classBegin(1, 1));
-        tally.dueThrows("P29 classes first", IllegalArgumentException.class, () -> rock.legendSpread(7));
-        tally.dueThrows("P30 classes first", IllegalArgumentException.class, () -> rock.legendSpreadByTable(0));
-        tally.dueThrows("P38 classes first", IllegalArgumentException.class, () -> rock.describeLegend(0));
-        for (int[] cell : new int[][] {{-1, 0}, {0, -1}, {0, 8}, {Integer.MAX_VALUE, 0}}) {
-            tally.dueThrows("P32 no cell", IndexOutOfBoundsException.class, () -> rock.classOf(cell[0], cell[1], 1));
-        }
     }
 }

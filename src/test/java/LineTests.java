@@ -9,7 +9,6 @@ final class LineTests {
     static void run(Tally tally) {
         LineTests tests = new LineTests(tally);
         tests.rows();
-        tests.wrongRows();
         tests.lines();
         tests.means();
         tests.shares();
@@ -40,15 +39,6 @@ final class LineTests {
         embers.heatUp(0, 0, 5);
         tally.due("P37 embers and heat", "01#.....", Maps.row(embers, 0));
         tally.due("P37 beside", "1#......", Maps.row(embers, 1));
-    }
-
-    private void wrongRows() {
-        MapSanatorium map = new MapSanatorium();
-        map.describeLegend(1);
-        for (int y : new int[] {-1, 8, Integer.MIN_VALUE, Integer.MAX_VALUE}) {
-            tally.dueThrows("P37 no row", IndexOutOfBoundsException.class, () -> map.describeRow(y));
-        }
-        tally.due("P37 the line stays", "0-0", Maps.line(map, 3));
     }
 
     private void lines() {

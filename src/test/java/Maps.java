@@ -63,6 +63,76 @@ final class Maps {
         return map;
     }
 
+    /**
+     * Makes a map that has something of everything: that of withEmbersOnly() with 40 units of heat
+     * in (5, 5), sand in (6, 6) and a border of 30 below, and these three behind the snapshot; more
+     * changes than can be undone; the refusal 2 with the detail 150; the error position 7; the failed
+     * command 1; the line "e1#....."; and the command text "heat 77+5".
+     */
+    static MapSanatorium used() {
+        MapSanatorium map = usedWithoutText();
+        write(map, "heat 77+5");
+        return map;
+    }
+
+    static MapSanatorium usedWithoutText() {
+        MapSanatorium map = withEmbersOnly();
+        map.save();
+        map.heatUp(5, 5, 40);
+        map.setGround(6, 6, ':');
+        map.setBorder(2, 30);
+        Whole.answerOf(() -> map.setGround(1, 0, '#'));
+        write(map, "pass 1;x");
+        Whole.answerOf(map::run);
+        write(map, "pass 1;pass 0");
+        Whole.answerOf(map::run);
+        map.describeRow(0);
+        return map;
+    }
+
+    /**
+     * Makes a map whose cell (3, 3) has relapsed to a heat above 9999, which heatUp() alone never
+     * reaches: behind rock it collects embers, opened below it cools, and a hot neighbour lights it.
+     */
+    static MapSanatorium withGreatRelapse() {
+        MapSanatorium map = walledIn();
+        for (int round = 0; round < 2; round++) {
+            heatMuch(map, 3, 3, 9999 - map.heatAt(3, 3));
+            passMany(map, 100);
+        }
+        map.setGround(3, 4, '.');
+        passMany(map, 160);
+        map.setGround(3, 2, '.');
+        heatMuch(map, 3, 2, 1500);
+        map.pass(1);
+        return map;
+    }
+
+    /** The number of a cell that lies at that side and at no other. */
+    static int atSide(int side) {
+        int[] cells = {3, 39, 58, 32};
+        return cells[side];
+    }
+
+    /** Makes a map whose only heat is at that side, in a cell with rock all round. */
+    static MapSanatorium warmAt(int side, int heat) {
+        MapSanatorium map = new MapSanatorium();
+        int cell = atSide(side);
+        for (int other = 0; other < 64; other++) {
+            if (Math.abs(cell % 8 - other % 8) + Math.abs(cell / 8 - other / 8) == 1) {
+                map.setGround(other % 8, other / 8, '#');
+            }
+        }
+        heatMuch(map, cell % 8, cell / 8, heat);
+        return map;
+    }
+
+    static void passMany(MapSanatorium map, int ticks) {
+        for (int left = ticks; left > 0; left -= 20) {
+            map.pass(Math.min(left, 20));
+        }
+    }
+
     /** Adds more heat than one call takes. */
     static void heatMuch(MapSanatorium map, int x, int y, int amount) {
         for (int left = amount; left > 0; left -= 999) {

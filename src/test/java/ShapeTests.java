@@ -1,6 +1,5 @@
 /** Promises 19 to 26. */
 final class ShapeTests {
-    private static final int[] NO_LEVELS = {0, -1, 10000, Integer.MIN_VALUE, Integer.MAX_VALUE};
     private final Tally tally;
 
     private ShapeTests(Tally tally) {
@@ -13,7 +12,6 @@ final class ShapeTests {
         tests.shapes();
         tests.levelsOfOneMap();
         tests.sizes();
-        tests.wrongLevels();
     }
 
     private void bits() {
@@ -101,23 +99,5 @@ final class ShapeTests {
         tally.due("P26 joined", 16, () -> map.regionSize(0, 0, 20));
         map.heatUp(2, 0, 20);
         tally.due("P26 alone", 1, () -> map.regionSize(2, 0, 40));
-        tally.dueThrows("P26 no column", IndexOutOfBoundsException.class, () -> map.regionSize(8, 0, 20));
-        tally.dueThrows("P26 no row", IndexOutOfBoundsException.class, () -> map.regionSize(0, -1, 20));
-        tally.dueThrows("P26 no cell, no level", IndexOutOfBoundsException.class, () -> map.regionSize(-1, 0, 0));
-    }
-
-    private void wrongLevels() {
-        MapSanatorium map = new MapSanatorium();
-        for (int level : NO_LEVELS) {
-            tally.dueThrows("P19 no level", IllegalArgumentException.class, () -> map.cellBits(level));
-            tally.dueThrows("P20 no level", IllegalArgumentException.class, () -> map.regions(level));
-            tally.dueThrows("P21 no level", IllegalArgumentException.class, () -> map.regionsByUnions(level));
-            tally.dueThrows("P22 no level", IllegalArgumentException.class, () -> map.holes(level));
-            tally.dueThrows("P23 no level", IllegalArgumentException.class, () -> map.holesBySquares(level));
-            tally.dueThrows("P24 no level", IllegalArgumentException.class, () -> map.contourLength(level));
-            tally.dueThrows("P25 no level", IllegalArgumentException.class, () -> map.contourLengthByPairs(level));
-            tally.dueThrows("P26 no level", IllegalArgumentException.class, () -> map.regionSize(7, 7, level));
-            tally.dueThrows("P41 no level", IllegalArgumentException.class, () -> (long) map.levelShare(level));
-        }
     }
 }

@@ -15,7 +15,6 @@ final class WayTests {
         tests.noWay();
         tests.endsCount();
         tests.manyHeats();
-        tests.wrongCells();
     }
 
     private void due(MapSanatorium map, int peak, int fromX, int fromY, int toX, int toY) {
@@ -119,21 +118,6 @@ final class WayTests {
                 int y = cell / 8;
                 due(map, model.coolestPeak(3, 4, x, y), 3, 4, x, y);
             }
-        }
-    }
-
-    private void wrongCells() {
-        MapSanatorium map = new MapSanatorium();
-        map.setGround(0, 0, '#');
-        int[][] ways = {
-            {-1, 0, 0, 0}, {8, 0, 0, 0}, {0, -1, 0, 0}, {0, 8, 0, 0}, {0, 0, -1, 0}, {0, 0, 8, 0},
-            {0, 0, 0, -1}, {0, 0, 0, 8}, {Integer.MIN_VALUE, 0, 0, 0}, {0, 0, 0, Integer.MAX_VALUE},
-        };
-        for (int[] way : ways) {
-            tally.dueThrows("P27 no cell", IndexOutOfBoundsException.class,
-                    () -> map.coolestPeak(way[0], way[1], way[2], way[3]));
-            tally.dueThrows("P28 no cell", IndexOutOfBoundsException.class,
-                    () -> map.coolestPeakByTrying(way[0], way[1], way[2], way[3]));
         }
     }
 }
