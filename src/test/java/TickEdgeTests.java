@@ -31,6 +31,7 @@ final class TickEdgeTests {
         tests.promises16And17Counts();
         tests.promise18Levels();
         tests.promise18Ticks();
+        tests.promise18AsTicksPass();
         tests.promise18ChangesNothing();
     }
 
@@ -333,6 +334,20 @@ final class TickEdgeTests {
         tally.dueThrows("P18 twenty-one ticks", NoSuchElementException.class, () -> map.ticksUntilBelow(700));
         tally.due("P18 one tick less of what is left", 20, () -> passed(map).ticksUntilBelow(700));
         tally.due("P18 from above the greatest level", 3, () -> Maps.withGreatRelapse().ticksUntilBelow(9999));
+    }
+
+    /** A relapse lifts the heat of a cell on the way; the first tick that is below the level counts. */
+    private void promise18AsTicksPass() {
+        for (int level : new int[] {998, 999, 501, 500, 387, 386, 300, 200, 150, 100, 1}) {
+            MapSanatorium map = lit(848);
+            int ticks = 0;
+            while (ticks <= 20 && map.cellBits(level) != 0) {
+                map.pass(1);
+                ticks++;
+            }
+            String want = ticks > 20 ? "NoSuchElementException " : ticks + " ";
+            tally.due("P18 until below " + level, want, Whole.answerOf(() -> lit(848).ticksUntilBelow(level)));
+        }
     }
 
     private void promise18ChangesNothing() {
