@@ -24,8 +24,10 @@ public final class AllTests {
         LineEdgeTests.run(tally);
         ChangeTests.run(tally);
         ChangeEdgeTests.run(tally);
+        UseTests.run(tally);
         FaceTests.run(tally);
         LanguageTests.run(tally, Path.of(args[0]));
+        TreeTests.run(tally, Path.of(args[0]));
         RandomRunTests.run(tally);
         RandomRunTests.runLong(tally);
         System.out.println("checks: " + tally.passed() + " passed, " + tally.failed() + " failed");

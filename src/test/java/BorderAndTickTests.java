@@ -216,27 +216,10 @@ final class BorderAndTickTests {
 
     /** A cell that relapses to 500 or more makes its neighbour relapse in the next tick only. */
     private void relapsesAtOnce() {
-        MapSanatorium map = new MapSanatorium();
-        for (int x = 2; x < 7; x++) {
-            map.setGround(x, 1, '#');
-        }
-        map.setGround(2, 0, '#');
-        map.setGround(3, 0, '#');
-        map.setGround(6, 0, '#');
-        map.setBorder(0, 9999);
-        Maps.heatMuch(map, 4, 0, 2600);
-        Maps.heatMuch(map, 5, 0, 2600);
-        map.pass(20);
+        MapSanatorium map = Maps.withEmbersInARow();
         tally.due("P6 in both", 2000, () -> map.embersAt(4, 0));
-        tally.due("P5 in both", 600, () -> map.heatAt(5, 0));
-        map.setBorder(0, 0);
-        for (int call = 0; call < 4; call++) {
-            map.pass(20);
-        }
         tally.due("P5 cool now", 7, () -> map.heatAt(4, 0));
-        map.setBorder(0, 9999);
-        map.setGround(3, 0, '.');
-        map.heatUp(3, 0, 999);
+        Maps.heatBeside(map);
         tally.due("P15 the nearer one", 1, () -> map.pass(1));
         tally.due("P5 relapsed", 2131, () -> map.heatAt(4, 0));
         tally.due("P5 not yet", 7, () -> map.heatAt(5, 0));

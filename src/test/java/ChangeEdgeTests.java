@@ -24,6 +24,7 @@ final class ChangeEdgeTests {
         tests.promise45KeepsTheSnapshot();
         tests.promise45EverythingComesBack();
         tests.promise45WhatIsNotRestored();
+        tests.promises43And45RelapsesOfBefore();
     }
 
     private void change(MapSanatorium map, String kind) {
@@ -274,5 +275,22 @@ final class ChangeEdgeTests {
         leaveMuch(map);
         map.restore();
         dueLeft("P45", map);
+    }
+
+    /** What came before the change or the snapshot stays: relapses, ticks and what left by the borders. */
+    private void promises43And45RelapsesOfBefore() {
+        MapSanatorium map = Maps.withEmbersOnBothSides();
+        map.pass(1);
+        String before = Whole.readings(map);
+        tally.due("P44 ticks", 82, map::save);
+        map.pass(20);
+        map.undo();
+        tally.due("P43 relapses of before", 2, map::relapses);
+        tally.due("P43 all of before", before, Whole.readings(map));
+        map.setBorder(0, 0);
+        map.pass(20);
+        tally.due("P45 ticks of before", 82, map::restore);
+        tally.due("P45 relapses of before", 2, map::relapses);
+        tally.due("P45 all of before", before, Whole.readings(map));
     }
 }

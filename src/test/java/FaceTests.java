@@ -7,19 +7,36 @@ import java.util.TreeSet;
 
 /** The face of the class, as the document and rules 1 and 5 of LANGUAGE.md want it. */
 final class FaceTests {
+    /** Exceptions stand in the document's order, without the word Exception at their ends. */
     private static final String[] FACE = {
-        "char setGround(int,int,char)", "char groundAt(int,int)", "int heatUp(int,int,int)",
-        "int heatAt(int,int)", "int embersAt(int,int)", "int allHeat()", "int allHeatByAccounts()",
-        "int cellAtRank(int)", "int refusalReason()", "int refusalDetail()", "int setBorder(int,int)",
-        "int border(int)", "int lostBy(int)", "int pass(int)", "int ticks()", "int relapses()",
-        "int ticksUntilBelow(int)", "long cellBits(int)", "int regions(int)", "int regionsByUnions(int)",
-        "int holes(int)", "int holesBySquares(int)", "int contourLength(int)",
-        "int contourLengthByPairs(int)", "int regionSize(int,int,int)", "int coolestPeak(int,int,int,int)",
-        "int coolestPeakByTrying(int,int,int,int)", "int legendSpread(int)", "int legendSpreadByTable(int)",
-        "int classBegin(int,int)", "int classOf(int,int,int)", "int append(char)", "int run()",
-        "int errorPosition()", "int failedCommand()", "int describeRow(int)", "int describeLegend(int)",
-        "char lineAt(int)", "double meanHeat()", "float levelShare(int)", "boolean isConsistent()",
-        "int undo()", "int save()", "int restore()",
+        "char setGround(int,int,char) throws IndexOutOfBounds,IllegalArgument,UnsupportedOperation",
+        "char groundAt(int,int) throws IndexOutOfBounds",
+        "int heatUp(int,int,int) throws IndexOutOfBounds,IllegalArgument,UnsupportedOperation",
+        "int heatAt(int,int) throws IndexOutOfBounds", "int embersAt(int,int) throws IndexOutOfBounds",
+        "int allHeat()", "int allHeatByAccounts()", "int cellAtRank(int) throws NoSuchElement",
+        "int refusalReason() throws NoSuchElement", "int refusalDetail() throws NoSuchElement",
+        "int setBorder(int,int) throws IndexOutOfBounds,IllegalArgument",
+        "int border(int) throws IndexOutOfBounds", "int lostBy(int) throws IndexOutOfBounds",
+        "int pass(int) throws IllegalArgument", "int ticks()", "int relapses()",
+        "int ticksUntilBelow(int) throws IllegalArgument,NoSuchElement",
+        "long cellBits(int) throws IllegalArgument", "int regions(int) throws IllegalArgument",
+        "int regionsByUnions(int) throws IllegalArgument", "int holes(int) throws IllegalArgument",
+        "int holesBySquares(int) throws IllegalArgument", "int contourLength(int) throws IllegalArgument",
+        "int contourLengthByPairs(int) throws IllegalArgument",
+        "int regionSize(int,int,int) throws IndexOutOfBounds,IllegalArgument",
+        "int coolestPeak(int,int,int,int) throws IndexOutOfBounds,NoSuchElement",
+        "int coolestPeakByTrying(int,int,int,int) throws IndexOutOfBounds,NoSuchElement",
+        "int legendSpread(int) throws IllegalArgument,IllegalState",
+        "int legendSpreadByTable(int) throws IllegalArgument,IllegalState",
+        "int classBegin(int,int) throws IllegalArgument,IllegalState,NoSuchElement",
+        "int classOf(int,int,int) throws IndexOutOfBounds,IllegalArgument,IllegalState,UnsupportedOperation",
+        "int append(char) throws IllegalArgument,IllegalState",
+        "int run() throws IllegalArgument,IllegalState", "int errorPosition() throws NoSuchElement",
+        "int failedCommand() throws NoSuchElement", "int describeRow(int) throws IndexOutOfBounds",
+        "int describeLegend(int) throws IllegalArgument,IllegalState",
+        "char lineAt(int) throws IndexOutOfBounds", "double meanHeat() throws Arithmetic",
+        "float levelShare(int) throws IllegalArgument", "boolean isConsistent()",
+        "int undo() throws IllegalState", "int save()", "int restore() throws IllegalState",
     };
     private final Tally tally;
 
@@ -57,7 +74,12 @@ final class FaceTests {
         for (Class<?> parameter : method.getParameterTypes()) {
             parameters.append(parameters.length() == 0 ? "" : ",").append(parameter);
         }
-        return method.getReturnType() + " " + method.getName() + "(" + parameters + ")";
+        StringBuilder exceptions = new StringBuilder();
+        for (Class<?> exception : method.getExceptionTypes()) {
+            exceptions.append(exceptions.length() == 0 ? " throws " : ",")
+                    .append(exception.getSimpleName().replace("Exception", ""));
+        }
+        return method.getReturnType() + " " + method.getName() + "(" + parameters + ")" + exceptions;
     }
 
     private void constructors() {

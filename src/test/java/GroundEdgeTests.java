@@ -196,6 +196,10 @@ final class GroundEdgeTests {
         tally.due("P8 from the first cell to the last", 11, ends::allHeatByAccounts);
         Whole.dueQuestion(tally, "P7 embers count", 440, MapSanatorium::allHeat);
         Whole.dueQuestion(tally, "P8 what left by the borders does not", 440, MapSanatorium::allHeatByAccounts);
+        MapSanatorium run = Maps.used();
+        run.run();
+        tally.due("P7 the heat that a run adds", 445, run::allHeat);
+        tally.due("P8 the heat that a run adds", 445, run::allHeatByAccounts);
         for (int side = 0; side < 4; side++) {
             MapSanatorium map = Maps.warmAt(side, 8);
             map.pass(1);

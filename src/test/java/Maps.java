@@ -108,6 +108,51 @@ final class Maps {
         return map;
     }
 
+    /**
+     * Makes a map whose cells (4, 0) and (5, 0) have 2000 embers and a heat of 7 each; rock lies round
+     * the two. 100 ticks have passed.
+     */
+    static MapSanatorium withEmbersInARow() {
+        MapSanatorium map = new MapSanatorium();
+        for (int x = 2; x < 7; x++) {
+            map.setGround(x, 1, '#');
+        }
+        map.setGround(2, 0, '#');
+        map.setGround(3, 0, '#');
+        map.setGround(6, 0, '#');
+        map.setBorder(0, 9999);
+        heatMuch(map, 4, 0, 2600);
+        heatMuch(map, 5, 0, 2600);
+        map.pass(20);
+        map.setBorder(0, 0);
+        passMany(map, 80);
+        return map;
+    }
+
+    /** Puts heat into (3, 0), which is rock up to here, so that (4, 0) relapses in the next tick. */
+    static void heatBeside(MapSanatorium map) {
+        map.setBorder(0, 9999);
+        map.setGround(3, 0, '.');
+        map.heatUp(3, 0, 999);
+    }
+
+    /** Makes a map whose cells (3, 0) and (5, 0) have 100 embers and a heat of 7 each, and (4, 0) heat. */
+    static MapSanatorium withEmbersOnBothSides() {
+        MapSanatorium map = inRock();
+        map.setGround(3, 0, '.');
+        map.setGround(5, 0, '.');
+        map.setBorder(0, 9999);
+        map.heatUp(3, 0, 700);
+        map.heatUp(5, 0, 700);
+        map.pass(1);
+        map.setBorder(0, 0);
+        passMany(map, 80);
+        map.setBorder(0, 9999);
+        map.setGround(4, 0, '.');
+        heatMuch(map, 4, 0, 1607);
+        return map;
+    }
+
     /** The number of a cell that lies at that side and at no other. */
     static int atSide(int side) {
         int[] cells = {3, 39, 58, 32};

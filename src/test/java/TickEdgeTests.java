@@ -27,6 +27,7 @@ final class TickEdgeTests {
         tests.promise15Embers();
         tests.promise15EmbersBehindTheFlow();
         tests.promise15Relapses();
+        tests.promise15EachRelapseCounts();
         tests.promise15NoRelapse();
         tests.promises16And17Counts();
         tests.promise18Levels();
@@ -267,6 +268,25 @@ final class TickEdgeTests {
     private static MapSanatorium passed(MapSanatorium map) {
         map.pass(1);
         return map;
+    }
+
+    /** Two cells relapse in one tick, in two ticks of one call, and in the ticks of two calls. */
+    private void promise15EachRelapseCounts() {
+        MapSanatorium together = Maps.withEmbersOnBothSides();
+        tally.due("P15 two in one tick", 2, () -> together.pass(1));
+        tally.due("P17 two in one tick", 2, together::relapses);
+        tally.due("P5 the first of the two", 7 + 200 + 100, () -> together.heatAt(3, 0));
+        tally.due("P5 the second of the two", 7 + 200 + 100, () -> together.heatAt(5, 0));
+        tally.due("P7 two in one tick", together.allHeatByAccounts(), together::allHeat);
+        MapSanatorium inARow = Maps.withEmbersInARow();
+        Maps.heatBeside(inARow);
+        tally.due("P15 one in each of two ticks", 2, () -> inARow.pass(2));
+        tally.due("P17 one in each of two ticks", 2, inARow::relapses);
+        MapSanatorium apart = Maps.withEmbersInARow();
+        Maps.heatBeside(apart);
+        tally.due("P15 one in the first call", 1, () -> apart.pass(1));
+        tally.due("P15 one in the second call", 1, () -> apart.pass(1));
+        tally.due("P17 of both calls", 2, apart::relapses);
     }
 
     private void promise15NoRelapse() {
